@@ -55,6 +55,7 @@ public final class PriorityKernel {
     private final int[] values = new int[SEMAPHORES];
     private final MessageQueue[] queues = new MessageQueue[QUEUES];
     private int time = 0;
+    /** STAMPS and the starts of waits come from this one row of numbers, so that later ones are always greater. */
     private long lastMoment = 0;
 
     public PriorityKernel(int slice, int ceiling) {
@@ -98,7 +99,8 @@ public final class PriorityKernel {
         }
         t.base = base;
         if (t.state == READY) {
-            t.since = newMoment();
+            // Its ticks USED stay: only the stamp is new.
+            t.since = ++lastMoment;
         }
         return DONE;
     }
@@ -353,12 +355,6 @@ public final class PriorityKernel {
         return n == 0 ? NONE : (long) time + n;
     }
 
-    /** Stamps and the starts of waits come from one row of numbers, so that later ones are always greater. */
-    private long newMoment() {
-        lastMoment++;
-        return lastMoment;
-    }
-
     private Task leastFree() {
         for (Task t : tasks) {
             if (t.state == FREE) {
@@ -442,7 +438,7 @@ public final class PriorityKernel {
     }
 
     private void startTurn(Task t) {
-        t.since = newMoment();
+        t.since = ++lastMoment;
         t.used = 0;
     }
 
@@ -451,14 +447,15 @@ public final class PriorityKernel {
         t.waitsOn = ON_NOTHING;
         t.deadline = NONE;
         t.result = result;
-        startTurn(t);
+        t.since = ++lastMoment;
+        t.used = 0;
     }
 
     private void block(Task t, int thing, long deadline) {
         t.state = WAITING;
         t.waitsOn = thing;
         t.deadline = deadline;
-        t.since = newMoment();
+        t.since = ++lastMoment;
     }
 
     private void take(Task t, int m) {
@@ -526,10 +523,11 @@ public final class PriorityKernel {
     private void endWait(Task t) {
         if (t.waitsOn == ON_SLEEP) {
             makeReady(t, SUCCESS);
-        } else if (t.waitsOn >= ON_SEMAPHORE) {
-            makeReady(t, TIMED_OUT);
-        } else {
+        } else if (isBelow(t.waitsOn - ON_CONDITION, CONDITIONS)) {
             endAwait(t, TIMED_OUT);
+        } else {
+            // Nothing else has a deadline but a semaphore.
+            makeReady(t, TIMED_OUT);
         }
     }
 

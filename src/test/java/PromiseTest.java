@@ -722,7 +722,24 @@ public final class PromiseTest {
             told(k, 1, RESULT, 0);
             due("messages", k.count(3), i == 0 ? 4 : 4 - i);
         }
-        sendToReceivers();
+        sendToReceivers(0);
+        sendToReceivers(1);
+        orderOfRanks();
+    }
+
+    private static void orderOfRanks() {
+        int[][] sent = {{1, 9, 1, 5}, {9, 1, 9, 1}, {0, 1, 2, 3}, {3, 2, 1, 0}, {4, 4, 4, 4}, {5, 0, 0, 5}};
+        int[][] order = {{1, 3, 0, 2}, {0, 2, 1, 3}, {3, 2, 1, 0}, {0, 1, 2, 3}, {0, 1, 2, 3}, {0, 3, 1, 2}};
+        for (int i = 0; i < sent.length; i++) {
+            PriorityKernel k = with(4);
+            for (int value = 0; value < 4; value++) {
+                due("send", k.send(0, sent[i][value], value), DONE);
+            }
+            for (int value : order[i]) {
+                due("receive", k.receive(0), DONE);
+                due("the value in row " + i, k.tell(0, RESULT), value);
+            }
+        }
     }
 
     private static int receiveBy(PriorityKernel k, int thread) {
@@ -731,23 +748,23 @@ public final class PromiseTest {
         return k.receive(1);
     }
 
-    private static void sendToReceivers() {
+    private static void sendToReceivers(int q) {
         PriorityKernel k = with(1);
         for (int base : new int[] {5, 7, 7, 6}) {
             k.spawn(base, false);
-            due("wait", k.receive(0), BLOCKED);
+            due("wait", k.receive(q), BLOCKED);
         }
         for (int next : new int[] {2, 3, 4, 1}) {
-            due("send", k.send(0, 0, -next), DONE);
+            due("send", k.send(q, 0, -next), DONE);
             told(k, next, STATE, 1);
             told(k, next, RESULT, -next);
             told(k, 0, RESULT, 0);
-            due("it is not put in", k.count(2), 0);
+            due("it is not put in", k.count(2 + q), 0);
             due("the sender goes on", k.priority(next, 1), DONE);
             runs(k, 0);
         }
-        due("send", k.send(0, 0, 8), DONE);
-        due("it is put in", k.count(2), 1);
+        due("send", k.send(q, 0, 8), DONE);
+        due("it is put in", k.count(2 + q), 1);
     }
 
     private static void receive() {
@@ -904,6 +921,10 @@ public final class PromiseTest {
         for (int t = 0; t < 4; t++) {
             k.spawn(4, false);
         }
+        for (int wrong : new int[] {LOWEST, -1, 0, 101, HIGHEST}) {
+            due("tick " + wrong + " with a thread running", k.tick(wrong), REFUSED);
+        }
+        due("time", k.count(4), 101);
         for (int t = 0; t < 3; t++) {
             k.pass();
         }
