@@ -1,22 +1,5 @@
 /** Each promise of the document by hand: ordinary calls, the edges that it names, and wrong inputs. */
-public final class PromiseTest {
-    private static final int REFUSED = PriorityKernel.REFUSED;
-    private static final int DONE = PriorityKernel.DONE;
-    private static final int BLOCKED = PriorityKernel.BLOCKED;
-    private static final int TIMED_OUT = PriorityKernel.TIMED_OUT;
-    private static final long NONE = PriorityKernel.NONE;
-    private static final int LOWEST = Integer.MIN_VALUE;
-    private static final int HIGHEST = Integer.MAX_VALUE;
-
-    private static final int STATE = 0;
-    private static final int BASE = 1;
-    private static final int EFFECTIVE = 2;
-    private static final int RESULT = 3;
-    private static final int WAITS_ON = 4;
-    private static final int DEADLINE = 5;
-
-    private static String promise = "";
-
+public final class PromiseTest extends Check {
     private PromiseTest() {
     }
 
@@ -45,32 +28,11 @@ public final class PromiseTest {
         owner();
         count();
         idle();
-        Check.end();
-    }
-
-    private static void due(String what, long got, long want) {
-        Check.due(promise + ": " + what, got, want);
-    }
-
-    private static void told(PriorityKernel k, int thread, int what, long want) {
-        due("tell(" + thread + ", " + what + ")", k.tell(thread, what), want);
-    }
-
-    private static void runs(PriorityKernel k, int thread) {
-        due("running()", k.running(), thread);
-    }
-
-    /** A kernel with slice 5, ceiling 20 and threads that are not sliced. */
-    private static PriorityKernel with(int... bases) {
-        PriorityKernel k = new PriorityKernel(5, 20);
-        for (int base : bases) {
-            k.spawn(base, false);
-        }
-        return k;
+        end();
     }
 
     private static void newObject() {
-        promise = "promise 1, new object";
+        about("promise 1, new object");
         PriorityKernel k = new PriorityKernel(5, 20);
         runs(k, -1);
         for (int t = 0; t < 8; t++) {
@@ -100,7 +62,7 @@ public final class PromiseTest {
     }
 
     private static void spawn() {
-        promise = "promise 2, spawn";
+        about("promise 2, spawn");
         PriorityKernel k = new PriorityKernel(2, 20);
         for (int wrong : new int[] {LOWEST, -1, 0, 32, HIGHEST}) {
             due("spawn " + wrong, k.spawn(wrong, false), REFUSED);
@@ -149,7 +111,7 @@ public final class PromiseTest {
     }
 
     private static void priority() {
-        promise = "promise 3, priority";
+        about("promise 3, priority");
         PriorityKernel k = with(5, 5, 3);
         due("raise", k.priority(1, 6), DONE);
         runs(k, 1);
@@ -216,7 +178,7 @@ public final class PromiseTest {
     }
 
     private static void pass() {
-        promise = "promise 4, pass";
+        about("promise 4, pass");
         PriorityKernel k = with(4, 4, 4, 2);
         due("pass", k.pass(), DONE);
         runs(k, 1);
@@ -238,7 +200,7 @@ public final class PromiseTest {
     }
 
     private static void lock() {
-        promise = "promise 5, lock";
+        about("promise 5, lock");
         for (int m = 0; m < 4; m++) {
             PriorityKernel k = with(4, 4);
             k.post(0);
@@ -313,7 +275,7 @@ public final class PromiseTest {
     }
 
     private static void inheriting() {
-        promise = "effective priorities";
+        about("effective priorities");
         int[][] protocols = {{0, 2}, {1, 9}, {2, 9}, {3, 20}};
         for (int[] p : protocols) {
             PriorityKernel k = with(2);
@@ -374,7 +336,7 @@ public final class PromiseTest {
     }
 
     private static void unlock() {
-        promise = "promise 6, unlock";
+        about("promise 6, unlock");
         PriorityKernel k = with(4, 4);
         due("owned by nobody", k.unlock(0), REFUSED);
         due("lock", k.lock(0), DONE);
@@ -433,7 +395,7 @@ public final class PromiseTest {
     }
 
     private static void await() {
-        promise = "promise 7, await";
+        about("promise 7, await");
         PriorityKernel k = with(4);
         due("not its own", k.await(0, 0, 0), REFUSED);
         for (int m = 0; m < 4; m++) {
@@ -491,7 +453,7 @@ public final class PromiseTest {
     }
 
     private static void awaitMutexLater() {
-        promise = "promise 7, await, the mutex being owned";
+        about("promise 7, await, the mutex being owned");
         PriorityKernel k = with(2, 6);
         k.lock(1);
         k.await(0, 1, 3);
@@ -527,7 +489,7 @@ public final class PromiseTest {
     }
 
     private static void signal() {
-        promise = "promise 8, signal";
+        about("promise 8, signal");
         PriorityKernel k = new PriorityKernel(5, 20);
         for (int wrong : new int[] {LOWEST, -1, 2, HIGHEST}) {
             due("condition " + wrong, k.signal(wrong, true), REFUSED);
@@ -553,7 +515,6 @@ public final class PromiseTest {
         due("unlock", k.unlock(0), DONE);
         due("owner", k.owner(0), 2);
         wokenOneByOne();
-        wokenRaisesAnother();
         wokenWaitsFromNow();
     }
 
@@ -573,25 +534,6 @@ public final class PromiseTest {
         runs(k, 2);
     }
 
-    /** The first one woken waits for a mutex of another waiter, which is now ahead of the third. */
-    private static void wokenRaisesAnother() {
-        PriorityKernel k = with(9);
-        k.lock(1);
-        k.await(0, 1, 0);
-        k.spawn(2, false);
-        k.lock(1);
-        k.lock(0);
-        k.await(0, 0, 0);
-        k.spawn(5, false);
-        k.lock(0);
-        k.await(0, 0, 0);
-        due("all", k.signal(0, true), 3);
-        told(k, 0, WAITS_ON, 11);
-        told(k, 1, EFFECTIVE, 9);
-        due("the raised one came before the third", k.owner(0), 1);
-        told(k, 2, WAITS_ON, 10);
-    }
-
     /** A thread that was BLOCKED on a condition is BLOCKED on the mutex only since it was woken. */
     private static void wokenWaitsFromNow() {
         PriorityKernel k = with(4);
@@ -607,7 +549,7 @@ public final class PromiseTest {
     }
 
     private static void down() {
-        promise = "promise 9, down";
+        about("promise 9, down");
         PriorityKernel k = with(2, 6);
         for (int wrong : new int[] {LOWEST, -1, 2, HIGHEST}) {
             due("semaphore " + wrong, k.down(wrong, 0), REFUSED);
@@ -646,7 +588,7 @@ public final class PromiseTest {
     }
 
     private static void post() {
-        promise = "promise 10, post";
+        about("promise 10, post");
         PriorityKernel k = new PriorityKernel(5, 20);
         for (int wrong : new int[] {LOWEST, -1, 2, HIGHEST}) {
             due("post " + wrong, k.post(wrong), REFUSED);
@@ -689,7 +631,7 @@ public final class PromiseTest {
     }
 
     private static void send() {
-        promise = "promise 11, send";
+        about("promise 11, send");
         PriorityKernel k = with(2, 6);
         for (int wrong : new int[] {LOWEST, -1, 2, HIGHEST}) {
             due("queue " + wrong, k.send(wrong, 0, 0), REFUSED);
@@ -768,7 +710,7 @@ public final class PromiseTest {
     }
 
     private static void receive() {
-        promise = "promise 12, receive";
+        about("promise 12, receive");
         PriorityKernel k = with(1);
         for (int wrong : new int[] {LOWEST, -1, 2, HIGHEST}) {
             due("queue " + wrong, k.receive(wrong), REFUSED);
@@ -806,7 +748,7 @@ public final class PromiseTest {
     }
 
     private static void sleep() {
-        promise = "promise 13, sleep";
+        about("promise 13, sleep");
         PriorityKernel k = with(4, 4);
         for (int wrong : new int[] {LOWEST, -1, 0, 1001, HIGHEST}) {
             due("sleep " + wrong, k.sleep(wrong), REFUSED);
@@ -838,7 +780,7 @@ public final class PromiseTest {
     }
 
     private static void join() {
-        promise = "promise 14, join";
+        about("promise 14, join");
         PriorityKernel k = with(6, 4, 3);
         for (int wrong : new int[] {LOWEST, -1, 8, HIGHEST}) {
             due("thread " + wrong, k.join(wrong), REFUSED);
@@ -872,7 +814,7 @@ public final class PromiseTest {
     }
 
     private static void exit() {
-        promise = "promise 15, exit";
+        about("promise 15, exit");
         PriorityKernel k = with(6, 4);
         for (int m = 0; m < 4; m++) {
             due("lock", k.lock(m), DONE);
@@ -908,7 +850,7 @@ public final class PromiseTest {
     }
 
     private static void tick() {
-        promise = "promise 16, tick";
+        about("promise 16, tick");
         PriorityKernel k = new PriorityKernel(5, 20);
         for (int wrong : new int[] {LOWEST, -1, 0, 101, HIGHEST}) {
             due("tick " + wrong, k.tick(wrong), REFUSED);
@@ -956,7 +898,7 @@ public final class PromiseTest {
     }
 
     private static void slices() {
-        promise = "promise 16, slices";
+        about("promise 16, slices");
         PriorityKernel k = new PriorityKernel(3, 20);
         k.spawn(4, true);
         k.spawn(4, true);
@@ -997,7 +939,7 @@ public final class PromiseTest {
     }
 
     private static void running() {
-        promise = "promise 17, running";
+        about("promise 17, running");
         PriorityKernel k = with();
         runs(k, -1);
         k.spawn(3, false);
@@ -1029,7 +971,7 @@ public final class PromiseTest {
     }
 
     private static void tell() {
-        promise = "promise 18, tell";
+        about("promise 18, tell");
         PriorityKernel k = with(4);
         for (int wrong : new int[] {LOWEST, -1, 8, HIGHEST}) {
             for (int what = 0; what < 6; what++) {
@@ -1074,7 +1016,7 @@ public final class PromiseTest {
     }
 
     private static void owner() {
-        promise = "promise 19, owner";
+        about("promise 19, owner");
         PriorityKernel k = with(4, 4);
         for (int wrong : new int[] {LOWEST, -1, 4, HIGHEST}) {
             due("owner " + wrong, k.owner(wrong), REFUSED);
@@ -1093,7 +1035,7 @@ public final class PromiseTest {
     }
 
     private static void count() {
-        promise = "promise 20, count";
+        about("promise 20, count");
         PriorityKernel k = with(4, 4, 4);
         for (int wrong : new int[] {LOWEST, -1, 6, HIGHEST}) {
             due("count " + wrong, k.count(wrong), REFUSED);
@@ -1121,7 +1063,7 @@ public final class PromiseTest {
     }
 
     private static void idle() {
-        promise = "calls marked R, the kernel being idle";
+        about("calls marked R, the kernel being idle");
         PriorityKernel k = with(4);
         k.post(0);
         k.send(0, 0, 1);
