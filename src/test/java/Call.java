@@ -45,6 +45,10 @@ record Call(Kind kind, int[] numbers, boolean flag) {
         }
     }
 
+    static Call of(Kind kind, int... numbers) {
+        return new Call(kind, numbers, false);
+    }
+
     /** A call of this kind; one number in wildEvery is any, the others are in their range. */
     static Call draw(Random random, Kind kind, int wildEvery) {
         int[] numbers = new int[kind.ranges.length / 2];

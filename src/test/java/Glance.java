@@ -8,16 +8,16 @@ final class Glance {
     static {
         for (int t = 0; t < 8; t++) {
             for (int what = 0; what < 6; what++) {
-                CALLS.add(look(Call.Kind.TELL, t, what));
+                CALLS.add(Call.of(Call.Kind.TELL, t, what));
             }
         }
         for (int m = 0; m < 4; m++) {
-            CALLS.add(look(Call.Kind.OWNER, m));
+            CALLS.add(Call.of(Call.Kind.OWNER, m));
         }
         for (int what = 0; what < 6; what++) {
-            CALLS.add(look(Call.Kind.COUNT, what));
+            CALLS.add(Call.of(Call.Kind.COUNT, what));
         }
-        CALLS.add(look(Call.Kind.RUNNING));
+        CALLS.add(Call.of(Call.Kind.RUNNING));
     }
 
     private Glance() {
@@ -25,9 +25,5 @@ final class Glance {
 
     static List<Call> calls() {
         return CALLS;
-    }
-
-    private static Call look(Call.Kind kind, int... numbers) {
-        return new Call(kind, numbers, false);
     }
 }

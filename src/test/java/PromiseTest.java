@@ -1,4 +1,4 @@
-/** Each promise of the document by hand: ordinary calls, the edges that it names, and wrong inputs. */
+/** Each promise of the document by hand: ordinary calls, the edges next to them, and wrong inputs. */
 public final class PromiseTest extends Check {
     private PromiseTest() {
     }

@@ -1,4 +1,4 @@
-import java.util.Random;
+import java.util.List;
 import java.util.function.Supplier;
 import java.util.function.ToLongFunction;
 
@@ -7,10 +7,6 @@ import java.util.function.ToLongFunction;
  * and both must answer alike ever after.
  */
 public final class RefusedTest extends Check {
-    private static final int SEEDS = 25;
-    private static final int PARTS = 3;
-    private static final int CALLS_OF_A_PART = 25;
-
     private RefusedTest() {
     }
 
@@ -37,33 +33,14 @@ public final class RefusedTest extends Check {
     }
 
     private static void unchanged(String what, Supplier<PriorityKernel> scene, ToLongFunction<PriorityKernel> call, long answer) {
-        for (int seed = 0; seed < SEEDS; seed++) {
+        for (List<Call> after : Afterplay.all()) {
             PriorityKernel called = scene.get();
             PriorityKernel spared = scene.get();
             due(what, call.applyAsLong(called), answer);
-            goOn(what, called, spared, new Random(seed));
-        }
-    }
-
-    private static void goOn(String what, PriorityKernel called, PriorityKernel spared, Random random) {
-        glance(what, called, spared);
-        for (int part = 0; part < PARTS; part++) {
-            for (int i = 0; i < CALLS_OF_A_PART; i++) {
-                Call.Kind[] kinds = Call.Kind.values();
-                alike(what, called, spared, Call.draw(random, kinds[random.nextInt(kinds.length)], HIGHEST));
+            for (Call later : after) {
+                due(what + ", later " + later, later.on(called), later.on(spared));
             }
-            glance(what, called, spared);
         }
-    }
-
-    private static void glance(String what, PriorityKernel called, PriorityKernel spared) {
-        for (Call look : Glance.calls()) {
-            alike(what, called, spared, look);
-        }
-    }
-
-    private static void alike(String what, PriorityKernel called, PriorityKernel spared, Call call) {
-        due(what + ", later " + call, call.on(called), call.on(spared));
     }
 
     private static void refused(String what, Supplier<PriorityKernel> scene, ToLongFunction<PriorityKernel> call) {

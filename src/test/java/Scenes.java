@@ -28,8 +28,8 @@ final class Scenes {
         k.lock(0);
         k.down(0, 60);
         k.spawn(28, false);
-        for (int value = 100; value < 105; value++) {
-            k.send(1, value % 3, value);
+        for (int rank : new int[] {1, 2, 0, 1, 1}) {
+            k.send(1, rank, 100 + k.count(3));
         }
         k.spawn(27, false);
         k.receive(0);
