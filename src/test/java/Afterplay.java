@@ -12,9 +12,12 @@ final class Afterplay {
 
     static {
         ALL.add(timeGoesOn());
-        ALL.add(messagesLeave());
+        ALL.add(messagesLeave(true));
+        ALL.add(messagesLeave(false));
         ALL.add(waitsEnd());
         ALL.add(threadsEnd());
+        ALL.add(awake(messagesLeave(false)));
+        ALL.add(awake(waitsEnd()));
         for (int seed = 0; seed < DRAWN; seed++) {
             ALL.add(drawn(new Random(seed)));
         }
@@ -27,6 +30,14 @@ final class Afterplay {
         return ALL;
     }
 
+    /** In an IDLE kernel these calls would all be refused before a sleeper wakes; after 38 ticks that of the scenes has its turn. */
+    private static List<Call> awake(List<Call> then) {
+        List<Call> calls = new ArrayList<>();
+        calls.add(Call.of(Call.Kind.TICK, 38));
+        calls.addAll(then);
+        return calls;
+    }
+
     private static List<Call> timeGoesOn() {
         List<Call> calls = new ArrayList<>();
         for (int tick = 0; tick < 65; tick++) {
@@ -36,10 +47,12 @@ final class Afterplay {
         return calls;
     }
 
-    /** A thread above all receives, where one is FREE; then those that are there. */
-    private static List<Call> messagesLeave() {
+    /** A new thread above all receives, if there is to be one and one is FREE; then those that are there. */
+    private static List<Call> messagesLeave(boolean toNewThread) {
         List<Call> calls = new ArrayList<>();
-        calls.add(Call.of(Call.Kind.SPAWN, 31));
+        if (toNewThread) {
+            calls.add(Call.of(Call.Kind.SPAWN, 31));
+        }
         for (int i = 0; i < 7; i++) {
             calls.add(Call.of(Call.Kind.RECEIVE, 1));
             results(calls);
@@ -50,7 +63,8 @@ final class Afterplay {
 
     private static List<Call> waitsEnd() {
         List<Call> calls = new ArrayList<>();
-        for (int m = 0; m < 4; m++) {
+        // The mutex that is wanted in the scenes is the first: both kernels would share what a refused unlock did.
+        for (int m : new int[] {1, 0, 2, 3}) {
             calls.add(Call.of(Call.Kind.UNLOCK, m));
             results(calls);
         }

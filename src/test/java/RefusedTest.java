@@ -47,6 +47,12 @@ public final class RefusedTest extends Check {
         unchanged(what, scene, call, REFUSED);
     }
 
+    /** In the busy kernel with a FREE thread, and in that with a thread BLOCKED on a mutex in its place. */
+    private static void refusedBusy(String what, ToLongFunction<PriorityKernel> call) {
+        refused(what, Scenes::busy, call);
+        refused(what + ", a mutex being wanted", Scenes::wanted, call);
+    }
+
     private static void scenesAreAsTold() {
         about("the scenes");
         PriorityKernel k = Scenes.busy();
@@ -68,6 +74,8 @@ public final class RefusedTest extends Check {
         runs(Scenes.wanted(), 2);
         due("owner", Scenes.ceiled().owner(3), 2);
         runs(Scenes.ceiled(), 2);
+        told(Scenes.ceiled(), 6, EFFECTIVE, 20);
+        told(Scenes.ceiled(), 2, RESULT, TIMED_OUT);
         told(Scenes.aboveCeiling(), 2, BASE, 21);
         runs(Scenes.aboveCeiling(), 2);
         due("semaphore 1", Scenes.full().count(1), 99);
@@ -77,22 +85,23 @@ public final class RefusedTest extends Check {
         about("promise 2, BASE 1 .. 31");
         for (int wrong : outside(1, 31)) {
             refused("spawn " + wrong, Scenes::fresh, k -> k.spawn(wrong, true));
-            refused("spawn " + wrong, Scenes::busy, k -> k.spawn(wrong, false));
+            refusedBusy("spawn " + wrong, k -> k.spawn(wrong, false));
         }
         about("promise 2, None is FREE: REFUSED");
         refused("a ninth thread", () -> Scenes.joined(6), k -> k.spawn(5, true));
+        refused("a ninth thread, a mutex being wanted", Scenes::wanted, k -> k.spawn(5, true));
         refused("a ninth thread above all", () -> Scenes.joined(2), k -> k.spawn(31, false));
     }
 
     private static void priority() {
         about("promise 3, The thread 0 .. 7");
         for (int wrong : outside(0, 7)) {
-            refused("priority of " + wrong, Scenes::busy, k -> k.priority(wrong, 9));
+            refusedBusy("priority of " + wrong, k -> k.priority(wrong, 9));
         }
         about("promise 3, BASE 1 .. 31");
         for (int wrong : outside(1, 31)) {
-            refused("priority " + wrong + " of a READY one", Scenes::busy, k -> k.priority(2, wrong));
-            refused("priority " + wrong + " of a BLOCKED one", Scenes::busy, k -> k.priority(1, wrong));
+            refusedBusy("priority " + wrong + " of a READY one", k -> k.priority(2, wrong));
+            refusedBusy("priority " + wrong + " of a BLOCKED one", k -> k.priority(1, wrong));
         }
         about("promise 3, It owns mutex 3 and the BASE is above the CEILING");
         for (int base = 21; base <= 31; base++) {
@@ -103,7 +112,7 @@ public final class RefusedTest extends Check {
         about("promise 3, or it is FREE or a ZOMBIE: REFUSED");
         for (int base : new int[] {1, 5, 30, 31}) {
             refused("priority of a FREE one", Scenes::busy, k -> k.priority(7, base));
-            refused("priority of a ZOMBIE", Scenes::busy, k -> k.priority(0, base));
+            refusedBusy("priority of a ZOMBIE", k -> k.priority(0, base));
         }
         refused("priority of one that is not made yet", Scenes::fresh, k -> k.priority(0, 9));
     }
@@ -117,7 +126,7 @@ public final class RefusedTest extends Check {
     private static void lock() {
         about("promise 5, mutex m 0 .. 3");
         for (int wrong : outside(0, 3)) {
-            refused("lock " + wrong, Scenes::busy, k -> k.lock(wrong));
+            refusedBusy("lock " + wrong, k -> k.lock(wrong));
         }
         about("promise 5, It owns m: REFUSED");
         for (int m = 0; m < 4; m++) {
@@ -162,9 +171,9 @@ public final class RefusedTest extends Check {
             refused("unlock " + wrong, Scenes::wanted, k -> k.unlock(wrong));
         }
         about("promise 6, It does not own it: REFUSED");
-        refused("unlock of a BLOCKED one's", Scenes::busy, k -> k.unlock(0));
-        refused("unlock of nobody's", Scenes::busy, k -> k.unlock(2));
-        refused("unlock of nobody's", Scenes::busy, k -> k.unlock(3));
+        refusedBusy("unlock of a BLOCKED one's", k -> k.unlock(0));
+        refusedBusy("unlock of nobody's", k -> k.unlock(2));
+        refusedBusy("unlock of nobody's", k -> k.unlock(3));
         refused("unlock of a READY one's, which a third wants", RefusedTest::equalOfOwner, k -> k.unlock(1));
     }
 
@@ -190,9 +199,9 @@ public final class RefusedTest extends Check {
         }
         about("promise 7, It does not own m: REFUSED");
         for (int n : new int[] {0, 1, 1000}) {
-            refused("a BLOCKED one's", Scenes::busy, k -> k.await(0, 0, n));
-            refused("nobody's", Scenes::busy, k -> k.await(0, 2, n));
-            refused("nobody's", Scenes::busy, k -> k.await(1, 3, n));
+            refusedBusy("a BLOCKED one's", k -> k.await(0, 0, n));
+            refusedBusy("nobody's", k -> k.await(0, 2, n));
+            refusedBusy("nobody's", k -> k.await(1, 3, n));
             refused("a READY one's, which a third wants", RefusedTest::equalOfOwner, k -> k.await(1, 1, n));
         }
     }
@@ -200,8 +209,8 @@ public final class RefusedTest extends Check {
     private static void signal() {
         about("promise 8, condition c 0 .. 1");
         for (int wrong : outside(0, 1)) {
-            refused("signal " + wrong, Scenes::busy, k -> k.signal(wrong, false));
-            refused("signal " + wrong + " to all", Scenes::busy, k -> k.signal(wrong, true));
+            refusedBusy("signal " + wrong, k -> k.signal(wrong, false));
+            refusedBusy("signal " + wrong + " to all", k -> k.signal(wrong, true));
         }
         about("promise 8, none waits");
         unchanged("signal", Scenes::busy, k -> k.signal(1, false), 0);
@@ -212,19 +221,19 @@ public final class RefusedTest extends Check {
     private static void down() {
         about("promise 9, semaphore s 0 .. 1");
         for (int wrong : outside(0, 1)) {
-            refused("down " + wrong, Scenes::busy, k -> k.down(wrong, 5));
+            refusedBusy("down " + wrong, k -> k.down(wrong, 5));
         }
         about("promise 9, deadline as in await");
         for (int wrong : outside(0, 1000)) {
-            refused("n = " + wrong + ", the value being 0", Scenes::busy, k -> k.down(0, wrong));
-            refused("n = " + wrong + ", the value being 3", Scenes::busy, k -> k.down(1, wrong));
+            refusedBusy("n = " + wrong + ", the value being 0", k -> k.down(0, wrong));
+            refusedBusy("n = " + wrong + ", the value being 3", k -> k.down(1, wrong));
         }
     }
 
     private static void post() {
         about("promise 10, semaphore s 0 .. 1");
         for (int wrong : outside(0, 1)) {
-            refused("post " + wrong, Scenes::busy, k -> k.post(wrong));
+            refusedBusy("post " + wrong, k -> k.post(wrong));
         }
         about("promise 10, at 99: REFUSED");
         refused("the hundredth post", Scenes::full, k -> k.post(1));
@@ -233,19 +242,19 @@ public final class RefusedTest extends Check {
     private static void send() {
         about("promise 11, queue q 0 .. 1");
         for (int wrong : outside(0, 1)) {
-            refused("queue " + wrong, Scenes::busy, k -> k.send(wrong, 5, 7));
+            refusedBusy("queue " + wrong, k -> k.send(wrong, 5, 7));
         }
         about("promise 11, rank 0 .. 9");
         for (int wrong : outside(0, 9)) {
-            refused("rank " + wrong + " to a receiver", Scenes::busy, k -> k.send(0, wrong, 7));
-            refused("rank " + wrong + " to a full queue", Scenes::busy, k -> k.send(1, wrong, 7));
+            refusedBusy("rank " + wrong + " to a receiver", k -> k.send(0, wrong, 7));
+            refusedBusy("rank " + wrong + " to a full queue", k -> k.send(1, wrong, 7));
             refused("rank " + wrong + " to an empty queue", RefusedTest::emptyQueue, k -> k.send(0, wrong, 7));
         }
     }
 
     /** The one that was BLOCKED on receiving from queue 0 has got a message and sleeps. */
     private static PriorityKernel emptyQueue() {
-        PriorityKernel k = Scenes.busy();
+        PriorityKernel k = Scenes.wanted();
         k.send(0, 0, 9);
         k.sleep(30);
         k.join(0);
@@ -255,27 +264,27 @@ public final class RefusedTest extends Check {
     private static void receive() {
         about("promise 12, queue q 0 .. 1");
         for (int wrong : outside(0, 1)) {
-            refused("queue " + wrong, Scenes::busy, k -> k.receive(wrong));
+            refusedBusy("queue " + wrong, k -> k.receive(wrong));
         }
     }
 
     private static void sleep() {
         about("promise 13, n 1 .. 1000");
         for (int wrong : outside(1, 1000)) {
-            refused("sleep " + wrong, Scenes::busy, k -> k.sleep(wrong));
+            refusedBusy("sleep " + wrong, k -> k.sleep(wrong));
         }
     }
 
     private static void join() {
         about("promise 14, thread t 0 .. 7");
         for (int wrong : outside(0, 7)) {
-            refused("join " + wrong, Scenes::busy, k -> k.join(wrong));
+            refusedBusy("join " + wrong, k -> k.join(wrong));
         }
         about("promise 14, It is FREE: REFUSED");
         refused("join", Scenes::busy, k -> k.join(7));
         refused("join one that has been joined", RefusedTest::emptyQueue, k -> k.join(0));
         about("promise 14, or R itself: REFUSED");
-        refused("join", Scenes::busy, k -> k.join(2));
+        refusedBusy("join", k -> k.join(2));
         refused("join, another being BLOCKED on joining R", () -> Scenes.joined(2), k -> k.join(2));
         about("promise 14, or some thread is BLOCKED on joining it: REFUSED");
         refused("join a READY one", () -> Scenes.joined(6), k -> k.join(6));
@@ -285,7 +294,7 @@ public final class RefusedTest extends Check {
     private static void exit() {
         about("promise 15, It owns a mutex: REFUSED");
         for (int value : new int[] {LOWEST, -1, 0, 42, HIGHEST}) {
-            refused("exit " + value, Scenes::busy, k -> k.exit(value));
+            refusedBusy("exit " + value, k -> k.exit(value));
             refused("exit " + value + ", a thread BLOCKED on joining it", () -> Scenes.joined(2), k -> k.exit(value));
         }
         for (int m = 0; m < 4; m++) {
@@ -305,7 +314,7 @@ public final class RefusedTest extends Check {
     private static void tick() {
         about("promise 16, n (1 .. 100)");
         for (int wrong : outside(1, 100)) {
-            refused("tick " + wrong, Scenes::busy, k -> k.tick(wrong));
+            refusedBusy("tick " + wrong, k -> k.tick(wrong));
             refused("tick " + wrong + ", the kernel being IDLE", Scenes::idle, k -> k.tick(wrong));
         }
     }
@@ -318,10 +327,10 @@ public final class RefusedTest extends Check {
         }
         for (int wrong : outside(0, 5)) {
             unchanged("tell what " + wrong, Scenes::busy, k -> k.tell(2, wrong), NONE);
-            refused("count " + wrong, Scenes::busy, k -> k.count(wrong));
+            refusedBusy("count " + wrong, k -> k.count(wrong));
         }
         for (int wrong : outside(0, 3)) {
-            refused("owner " + wrong, Scenes::busy, k -> k.owner(wrong));
+            refusedBusy("owner " + wrong, k -> k.owner(wrong));
         }
     }
 

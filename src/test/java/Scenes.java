@@ -41,14 +41,6 @@ final class Scenes {
         return k;
     }
 
-    /** Busy, but 2 sleeps and 6 joins it, so that none is READY. */
-    static PriorityKernel idle() {
-        PriorityKernel k = busy();
-        k.sleep(40);
-        k.join(2);
-        return k;
-    }
-
     /** Busy, and 7 is BLOCKED on joining this thread, so that none is FREE. */
     static PriorityKernel joined(int thread) {
         PriorityKernel k = busy();
@@ -66,26 +58,36 @@ final class Scenes {
         return k;
     }
 
-    /** Busy, and 2 owns mutex 3 beside; 6 is its equal still. */
-    static PriorityKernel ceiled() {
-        PriorityKernel k = busy();
-        k.lock(3);
-        k.join(0);
-        k.priority(6, 20);
+    /** Wanted, but 2 and 6 sleep, so that none is READY. */
+    static PriorityKernel idle() {
+        PriorityKernel k = wanted();
+        k.sleep(30);
+        k.sleep(31);
         return k;
     }
 
-    /** Busy, and the BASE of 2 and 6 is above the CEILING. */
+    /** Wanted, and 2 owns mutex 3 beside and has RESULT TIMED_OUT; 6 is its equal still. */
+    static PriorityKernel ceiled() {
+        PriorityKernel k = wanted();
+        k.lock(3);
+        k.down(0, 1);
+        k.tick(1);
+        k.priority(6, 20);
+        k.tick(1);
+        return k;
+    }
+
+    /** Wanted, and the BASE of 2 and 6 is above the CEILING. */
     static PriorityKernel aboveCeiling() {
-        PriorityKernel k = busy();
+        PriorityKernel k = wanted();
         k.priority(2, 21);
         k.priority(6, 21);
         return k;
     }
 
-    /** Busy, and semaphore 1 has its greatest value. */
+    /** Wanted, and semaphore 1 has its greatest value. */
     static PriorityKernel full() {
-        PriorityKernel k = busy();
+        PriorityKernel k = wanted();
         for (int value = 4; value <= 99; value++) {
             k.post(1);
         }
