@@ -68,6 +68,9 @@ public final class LanguageTest extends Check {
             bodies.merge(found.group(1), body, String::concat);
             due(found.group(1) + " is short", body.lines().count() <= MOST_LINES ? 1 : 0, 1);
             due(found.group(1) + " has few parameters", found.group(2).split(",").length <= MOST_PARAMETERS ? 1 : 0, 1);
+            if (!found.group(1).equals("PriorityKernel")) {
+                due("rule 12, " + found.group(1) + " makes no object", count(body, "\\bnew\\b"), 0);
+            }
         }
         due("the methods of the face are among them", bodies.size() > 19 ? 1 : 0, 1);
         Map<String, Set<String>> calls = new TreeMap<>();
